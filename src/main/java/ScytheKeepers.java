@@ -634,27 +634,27 @@ public final class ScytheKeepers {
         }
 
         private boolean tellsOne(Farms told, int f) {
-            return token == LETTER_F
+            boolean right = token == LETTER_F
                     && tellsNumber(told.farm, f, 0, MOST_FARM)
                     && tellsNumber(told.field, f, 1, MOST_FIELD)
                     && tellsNumber(told.shame, f, 0, MOST_SHAME)
                     && tellsNumber(told.nerve, f, 0, MOST_NERVE)
                     && tellsNumber(told.keeper, f, 0, MOST_FARMERS - 1)
-                    && told.keeper[f] != f
-                    && stepTo(ENDING);
+                    && told.keeper[f] != f;
+            if (!right) {
+                return false;
+            }
+            step();
+            return token == ENDING;
         }
 
         private boolean tellsNumber(int[] row, int f, int least, int most) {
-            if (!stepTo(NUMBER) || number < least || number > most) {
+            step();
+            if (token != NUMBER || number < least || number > most) {
                 return false;
             }
             row[f] = number;
             return true;
-        }
-
-        private boolean stepTo(int due) {
-            step();
-            return token == due;
         }
 
         private void step() {

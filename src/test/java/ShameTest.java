@@ -6,6 +6,7 @@ public final class ShameTest {
         seeing();
         forgetting();
         onesLeft();
+        onesAtTheEdges();
         looking();
         check.finish();
     }
@@ -54,10 +55,31 @@ public final class ShameTest {
         check.due("greatest", x.ones(2), 5);
         x.sees(4, 3, 1);
         check.due("NERVE 3", x.ones(0), 1);
+        check.due("one is left: least", x.ones(1), 5);
+        check.due("one is left: greatest", x.ones(2), 5);
         x.sees(4, 3, 0);
         check.due("none: how many", x.ones(0), 0);
         check.due("none: least", x.ones(1), ScytheKeepers.NONE);
         check.due("none: greatest", x.ones(2), ScytheKeepers.NONE);
+    }
+
+    private static void onesAtTheEdges() {
+        ScytheKeepers x = new ScytheKeepers();
+        x.sees(19, 5, 0);
+        check.due("SHAME 20, NERVE 6", x.ones(0), 1);
+        check.due("least", x.ones(1), 20);
+        check.due("greatest", x.ones(2), 20);
+        x.forget();
+        x.sees(19, 6, 0);
+        check.due("NERVE 6 at most: he would have", x.ones(0), 0);
+        x.forget();
+        x.sees(20, 0, 0);
+        check.due("SHAME 20 at most: he would have", x.ones(0), 0);
+        x.forget();
+        x.sees(0, 0, 1);
+        check.due("SHAME 0, or NERVE 0", x.ones(0), 27);
+        check.due("least", x.ones(1), 0);
+        check.due("greatest", x.ones(2), 20);
     }
 
     private static void looking() {
@@ -66,6 +88,9 @@ public final class ShameTest {
         check.due("look(21)", x.look(21), ScytheKeepers.BAD);
         check.due("look(0)", x.look(0), 2);
         check.due("look(20): he had in any case", x.look(20), 0);
+        x.sees(2, 2, 1);
+        check.due("look(0): 47 of 75 by one other, 48 by none", x.look(0), 1);
+        x.forget();
         x.sees(4, 2, 0);
         check.due("look(4): NERVE 3 .. 6, halves", x.look(4), 4);
         check.due("look(0): as on DAY 4", x.look(0), 4);

@@ -147,6 +147,16 @@ public final class ValleyTest {
         }
         fault("f  ", 3);
         fault("f0 1 0 0 1  ", 12);
+        // what was cleared is not read behind the end
+        ScytheKeepers x = new ScytheKeepers();
+        Check.write(x, "f0 1 0 0 19;;;");
+        x.clear();
+        check.due("valley() behind clear()", Check.read(x, "f0 1 0 0 1"), -20);
+        StringBuilder wide = new StringBuilder("f0 1 0 0 1");
+        while (wide.length() < 140) {
+            wide.insert(1, ' ');
+        }
+        fault(wide.toString(), 140);
     }
 
     private static void wrongTextChangesNothing() {
