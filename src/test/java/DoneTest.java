@@ -7,6 +7,7 @@ public final class DoneTest {
         askingByNerve();
         mowing();
         helping();
+        sixFarmers();
         dayRefused();
         lastDay();
         bringing();
@@ -67,6 +68,20 @@ public final class DoneTest {
         check.due("0 takes the last of 2 behind himself, 1 helps 3", y.day(1), 3);
         check.due("left of 2", y.farmer(2, 1), 0);
         check.due("left of 3", y.farmer(3, 1), 0);
+    }
+
+    private static void sixFarmers() {
+        ScytheKeepers x = Check.told("f0 1 0 0 1;f0 1 0 0 0;f0 1 0 0 0;f0 1 0 0 0;f0 1 0 0 0;f0 3 0 0 4;");
+        check.due("each for himself", x.day(1), 6);
+        check.due("4 helps 5, the others have nobody to help", x.day(1), 2);
+        check.due("all is mown", x.day(1), 0);
+        check.due("who has ASKED", x.now(1), 63);
+        // rows that six farmers filled are nothing to two
+        Check.read(x, "f0 1 0 6 1;f0 2 20 6 0;");
+        check.due("one of two", x.day(1), 1);
+        check.due("he has nobody to help yet", x.day(1), 0);
+        check.due("left", x.now(2), 2);
+        check.due("ALL: on DAY 20 both mow the same FIELD", x.now(3), 19);
     }
 
     private static void dayRefused() {
