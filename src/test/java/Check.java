@@ -1,14 +1,47 @@
+import java.io.IOException;
+import java.nio.file.Files;
+import java.nio.file.Path;
+import java.util.function.Supplier;
+import java.util.function.ToIntFunction;
+
 /** What the project's tests share: an answer against the one that is due, and an exit code. */
 final class Check {
+    private static final Path DOCUMENT = Path.of("../shared/DOC.md");
+
+    private String sentence = "";
     private int asked;
     private int wrong;
+
+    /** What is due from here on is due by this sentence, which must stand in the document. */
+    void of(String words) {
+        sentence = "[" + words + "] ";
+        holds("the document says it", Holder.DOCUMENT_WORDS.contains(words));
+    }
 
     void due(String call, long got, long want) {
         asked++;
         if (got != want) {
             wrong++;
-            System.out.println(call + " answered " + got + ", due is " + want);
+            System.out.println(sentence + call + " answered " + got + ", due is " + want);
         }
+    }
+
+    void holds(String what, boolean so) {
+        due(what, so ? 1 : 0, 1);
+    }
+
+    /** A call that is refused: its answer, and that nothing changes by it. */
+    void refused(String call, Supplier<ScytheKeepers> made, ToIntFunction<ScytheKeepers> body, int want) {
+        ScytheKeepers x = made.get();
+        due(call, body.applyAsInt(x), want);
+        holds(call + " changes nothing", Whole.of(x).equals(Whole.of(made.get())));
+    }
+
+    /** A call that only tells: nothing changes by it. */
+    void changesNothing(String call, Supplier<ScytheKeepers> made, ToIntFunction<ScytheKeepers> body) {
+        ScytheKeepers x = made.get();
+        body.applyAsInt(x);
+        holds(call + " changes nothing", Whole.of(x).equals(Whole.of(made.get())));
     }
 
     void finish() {
@@ -41,6 +74,19 @@ final class Check {
     static void days(ScytheKeepers keepers, int dry, int n) {
         for (int i = 0; i < n; i++) {
             keepers.day(dry);
+        }
+    }
+
+    /** The document is read only by tests that quote it, and once. */
+    private static final class Holder {
+        private static final String DOCUMENT_WORDS = words();
+
+        private static String words() {
+            try {
+                return Files.readString(DOCUMENT).replaceAll("\\s+", " ");
+            } catch (IOException e) {
+                throw new IllegalStateException("no document at " + DOCUMENT, e);
+            }
         }
     }
 }

@@ -9,7 +9,6 @@ public final class DoneTest {
         helping();
         sixFarmers();
         dayRefused();
-        lastDay();
         bringing();
         hanging();
         undoing();
@@ -90,17 +89,6 @@ public final class DoneTest {
         check.due("day(-1)", x.day(-1), ScytheKeepers.BAD);
         check.due("DAY as before", x.now(0), 0);
         check.due("UNDONE as before", x.now(4), 0);
-    }
-
-    /** Beyond the 512 calls for which answers are promised, but told all the same. */
-    private static void lastDay() {
-        ScytheKeepers x = new ScytheKeepers();
-        Check.days(x, 1, 998);
-        check.due("the DAY of 998", x.day(1), 0);
-        check.due("DAY", x.now(0), 999);
-        check.due("a DAY beyond", x.day(0), ScytheKeepers.STATE);
-        check.due("BAD first", x.day(2), ScytheKeepers.BAD);
-        check.due("DAY as before", x.now(0), 999);
     }
 
     private static void bringing() {

@@ -37,10 +37,6 @@ public final class FaceTest {
         check.finish();
     }
 
-    private static void holds(String what, boolean so) {
-        check.due(what, so ? 1 : 0, 1);
-    }
-
     private static void constants() {
         check.due("BAD", ScytheKeepers.BAD, -1);
         check.due("STATE", ScytheKeepers.STATE, -2);
@@ -59,14 +55,14 @@ public final class FaceTest {
 
     private static void face() {
         Class<?> c = ScytheKeepers.class;
-        holds("the class is public and final", Modifier.isPublic(c.getModifiers()) && Modifier.isFinal(c.getModifiers()));
+        check.holds("the class is public and final", Modifier.isPublic(c.getModifiers()) && Modifier.isFinal(c.getModifiers()));
         Set<String> methods = new TreeSet<>();
         for (Method m : c.getDeclaredMethods()) {
             if (!Modifier.isPrivate(m.getModifiers())) {
                 methods.add((Modifier.isPublic(m.getModifiers()) ? "" : "hidden ") + signature(m));
             }
         }
-        holds("methods: " + methods, methods.equals(METHODS));
+        check.holds("methods: " + methods, methods.equals(METHODS));
         Set<String> constants = new TreeSet<>();
         for (Field field : c.getDeclaredFields()) {
             if (!Modifier.isPrivate(field.getModifiers())) {
@@ -74,9 +70,9 @@ public final class FaceTest {
                         + field.getName());
             }
         }
-        holds("constants: " + constants, constants.equals(CONSTANTS));
+        check.holds("constants: " + constants, constants.equals(CONSTANTS));
         Constructor<?>[] made = c.getDeclaredConstructors();
-        holds("one public constructor without parameters", made.length == 1
+        check.holds("one public constructor without parameters", made.length == 1
                 && Modifier.isPublic(made[0].getModifiers()) && made[0].getParameterCount() == 0);
     }
 
@@ -84,37 +80,37 @@ public final class FaceTest {
         List<Class<?>> all = new ArrayList<>(List.of(ScytheKeepers.class));
         for (Class<?> inside : ScytheKeepers.class.getDeclaredClasses()) {
             int m = inside.getModifiers();
-            holds(inside + " is static and not public", Modifier.isStatic(m) && !Modifier.isPublic(m) && !Modifier.isProtected(m));
+            check.holds(inside + " is static and not public", Modifier.isStatic(m) && !Modifier.isPublic(m) && !Modifier.isProtected(m));
             all.add(inside);
         }
-        holds("twelve classes at most", all.size() <= 12);
+        check.holds("twelve classes at most", all.size() <= 12);
         for (Class<?> c : all) {
             int own = 0;
             for (Field field : c.getDeclaredFields()) {
                 boolean fixed = Modifier.isStatic(field.getModifiers());
                 own += fixed ? 0 : 1;
-                holds(field + " is final, if static", !fixed || Modifier.isFinal(field.getModifiers()));
+                check.holds(field + " is final, if static", !fixed || Modifier.isFinal(field.getModifiers()));
             }
-            holds(c + " has twenty fields at most", own <= 20);
+            check.holds(c + " has twenty fields at most", own <= 20);
             for (Method m : c.getDeclaredMethods()) {
-                holds(m + " has seven parameters at most", m.getParameterCount() <= 7);
+                check.holds(m + " has seven parameters at most", m.getParameterCount() <= 7);
                 boolean named = METHODS.stream().anyMatch(s -> s.contains(" " + m.getName() + "("));
-                holds(m + " bears no public one's name", !Modifier.isPrivate(m.getModifiers()) || !named);
+                check.holds(m + " bears no public one's name", !Modifier.isPrivate(m.getModifiers()) || !named);
             }
         }
     }
 
     private static void file() throws Exception {
         String text = new String(Files.readAllBytes(FILE), StandardCharsets.ISO_8859_1);
-        holds("signs are 1 to 127", text.chars().allMatch(sign -> sign >= 1 && sign <= 127));
+        check.holds("signs are 1 to 127", text.chars().allMatch(sign -> sign >= 1 && sign <= 127));
         String code = text.replaceAll("(?s)/\\*.*?\\*/", " ").replaceAll("//[^\n]*", " ");
         Matcher word = Pattern.compile("\\b(throw|throws|try|catch|finally|synchronized|assert|import|package|native"
                 + "|volatile|double|float|equals|hashCode|toString|Object|Exception|Thread|\\w+Exact)\\b|->|::|@").matcher(code);
-        holds("nothing that the rules leave out", !word.find());
+        check.holds("nothing that the rules leave out", !word.find());
         Matcher library = Pattern.compile("\\b(Integer|Long|Math|System|Arrays|List|Character|Boolean|String|StringBuilder)\\.\\w+")
                 .matcher(code);
         while (library.find()) {
-            holds(library.group() + " is in the rules' library", LIBRARY.contains(library.group()));
+            check.holds(library.group() + " is in the rules' library", LIBRARY.contains(library.group()));
         }
         methodsAreShort(text);
     }
@@ -127,7 +123,7 @@ public final class FaceTest {
                 from = i;
             }
             if (lines[i].matches(" {4,8}\\}") && lines[from].contains("(")) {
-                holds("sixty lines at most: " + lines[from].trim(), i - from < 60);
+                check.holds("sixty lines at most: " + lines[from].trim(), i - from < 60);
             }
         }
     }
@@ -152,7 +148,7 @@ public final class FaceTest {
             try {
                 m.invoke(x, numbers);
             } catch (InvocationTargetException e) {
-                holds(m.getName() + List.of(numbers) + " threw " + e.getCause(), false);
+                check.holds(m.getName() + List.of(numbers) + " threw " + e.getCause(), false);
             }
             return;
         }
