@@ -2,7 +2,6 @@
 public final class BestEdgeTest {
     private static final Check check = new Check();
     private static final int BAD = ScytheKeepers.BAD;
-    private static final int[] FAR_OFF = {Integer.MIN_VALUE, -1000, -2, -1, 1000, Integer.MAX_VALUE};
 
     public static void main(String[] args) {
         startDaysBeyond();
@@ -33,22 +32,11 @@ public final class BestEdgeTest {
         check.finish();
     }
 
-    private static ScytheKeepers busy() {
-        ScytheKeepers x = Check.told("f1 9 3 4 1;f5 6 7 2 0;f9 3 9 6 0;");
-        x.brings(1);
-        x.day(1);
-        x.keep(0);
-        x.hangs(0, 2);
-        x.sees(4, 2, 0);
-        x.rate(4, 1);
-        return x;
-    }
-
     private static void startDaysBeyond() {
         check.of("START for n (0 .. 20):");
-        check.refused("start(21)", BestEdgeTest::busy, x -> x.start(21), BAD);
-        for (int n : FAR_OFF) {
-            check.refused("start(" + n + ")", BestEdgeTest::busy, x -> x.start(n), BAD);
+        check.refused("start(21)", Check::busy, x -> x.start(21), BAD);
+        for (int n : Check.FAR_OFF) {
+            check.refused("start(" + n + ")", Check::busy, x -> x.start(n), BAD);
         }
         check.due("start(21) of none", new ScytheKeepers().start(21), BAD);
     }
@@ -168,7 +156,7 @@ public final class BestEdgeTest {
 
     private static void hangByFarmsAlone() {
         check.of("(As things are NOW; nothing is changed; days to come are dry.)");
-        ScytheKeepers x = busy();
+        ScytheKeepers x = Check.busy();
         int far = x.hang(-1);
         x.hangs(2, 1);
         check.due("hang(-1), whatever hangs where", x.hang(-1), far);
@@ -178,17 +166,17 @@ public final class BestEdgeTest {
     private static void hangOfNoFarmers() {
         check.of("NONE (no FARMERS)");
         check.due("hang(-1) of a new object", new ScytheKeepers().hang(-1), ScytheKeepers.NONE);
-        ScytheKeepers x = busy();
+        ScytheKeepers x = Check.busy();
         x.valley();
         check.due("hang(-1) behind a valley of none", x.hang(-1), ScytheKeepers.NONE);
     }
 
     private static void hangWhoThereIsNot() {
         check.of("HANG: how far (f = -1), the KEEPER of one; NONE. BAD.");
-        check.refused("hang(3) of three", BestEdgeTest::busy, x -> x.hang(3), BAD);
-        for (int f : FAR_OFF) {
+        check.refused("hang(3) of three", Check::busy, x -> x.hang(3), BAD);
+        for (int f : Check.FAR_OFF) {
             if (f != -1) {
-                check.refused("hang(" + f + ")", BestEdgeTest::busy, x -> x.hang(f), BAD);
+                check.refused("hang(" + f + ")", Check::busy, x -> x.hang(f), BAD);
             }
         }
         check.due("hang(-2) of none", new ScytheKeepers().hang(-2), BAD);
@@ -197,33 +185,33 @@ public final class BestEdgeTest {
 
     private static void oddsTenthsBeyond() {
         check.of("ODDS by x (0 .. 10), n (0 .. 8) for one");
-        check.refused("odds(0, 11, 0, 0)", BestEdgeTest::busy, x -> x.odds(0, 11, 0, 0), BAD);
-        for (int tenths : FAR_OFF) {
-            check.refused("odds(0, " + tenths + ", 0, 0)", BestEdgeTest::busy, x -> x.odds(0, tenths, 0, 0), BAD);
+        check.refused("odds(0, 11, 0, 0)", Check::busy, x -> x.odds(0, 11, 0, 0), BAD);
+        for (int tenths : Check.FAR_OFF) {
+            check.refused("odds(0, " + tenths + ", 0, 0)", Check::busy, x -> x.odds(0, tenths, 0, 0), BAD);
         }
     }
 
     private static void oddsDaysBeyond() {
         check.of("ODDS by x (0 .. 10), n (0 .. 8) for one");
-        check.refused("odds(0, 0, 9, 0)", BestEdgeTest::busy, x -> x.odds(0, 0, 9, 0), BAD);
-        for (int n : FAR_OFF) {
-            check.refused("odds(0, 0, " + n + ", 0)", BestEdgeTest::busy, x -> x.odds(0, 0, n, 0), BAD);
+        check.refused("odds(0, 0, 9, 0)", Check::busy, x -> x.odds(0, 0, 9, 0), BAD);
+        for (int n : Check.FAR_OFF) {
+            check.refused("odds(0, 0, " + n + ", 0)", Check::busy, x -> x.odds(0, 0, n, 0), BAD);
         }
     }
 
     private static void oddsWhatBeyond() {
         check.of("ODDS: upper (what = 0), lower number (1), in least terms. BAD.");
-        check.refused("odds(0, 0, 0, 2)", BestEdgeTest::busy, x -> x.odds(0, 0, 0, 2), BAD);
-        for (int what : FAR_OFF) {
-            check.refused("odds(0, 0, 0, " + what + ")", BestEdgeTest::busy, x -> x.odds(0, 0, 0, what), BAD);
+        check.refused("odds(0, 0, 0, 2)", Check::busy, x -> x.odds(0, 0, 0, 2), BAD);
+        for (int what : Check.FAR_OFF) {
+            check.refused("odds(0, 0, 0, " + what + ")", Check::busy, x -> x.odds(0, 0, 0, what), BAD);
         }
     }
 
     private static void oddsWhoThereIsNot() {
         check.of("ODDS: upper (what = 0), lower number (1), in least terms. BAD.");
-        check.refused("odds(3, 0, 0, 0) of three", BestEdgeTest::busy, x -> x.odds(3, 0, 0, 0), BAD);
-        for (int f : FAR_OFF) {
-            check.refused("odds(" + f + ", 0, 0, 0)", BestEdgeTest::busy, x -> x.odds(f, 0, 0, 0), BAD);
+        check.refused("odds(3, 0, 0, 0) of three", Check::busy, x -> x.odds(3, 0, 0, 0), BAD);
+        for (int f : Check.FAR_OFF) {
+            check.refused("odds(" + f + ", 0, 0, 0)", Check::busy, x -> x.odds(f, 0, 0, 0), BAD);
         }
         check.refused("odds(0, 0, 0, 1) of none", ScytheKeepers::new, x -> x.odds(0, 0, 0, 1), BAD);
     }

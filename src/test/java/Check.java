@@ -6,6 +6,9 @@ import java.util.function.ToIntFunction;
 
 /** What the project's tests share: an answer against the one that is due, and an exit code. */
 final class Check {
+    /** Numbers that no call takes. */
+    static final int[] FAR_OFF = {Integer.MIN_VALUE, -1000, -2, -1, 1000, Integer.MAX_VALUE};
+
     private static final Path DOCUMENT = Path.of("../shared/DOC.md");
 
     private String sentence = "";
@@ -69,6 +72,18 @@ final class Check {
             throw new IllegalArgumentException(text);
         }
         return keepers;
+    }
+
+    /** A valley of three in which all that can be changed has been. */
+    static ScytheKeepers busy() {
+        ScytheKeepers x = told("f1 9 3 4 1;f5 6 7 2 0;f9 3 9 6 0;");
+        x.brings(1);
+        x.day(1);
+        x.keep(0);
+        x.hangs(0, 2);
+        x.sees(4, 2, 0);
+        x.rate(4, 1);
+        return x;
     }
 
     static void days(ScytheKeepers keepers, int dry, int n) {

@@ -3,7 +3,6 @@ public final class DoneEdgeTest {
     private static final Check check = new Check();
     private static final int BAD = ScytheKeepers.BAD;
     private static final int STATE = ScytheKeepers.STATE;
-    private static final int[] FAR_OFF = {Integer.MIN_VALUE, -1000, -2, -1, 1000, Integer.MAX_VALUE};
 
     public static void main(String[] args) {
         dryOrWet();
@@ -40,24 +39,13 @@ public final class DoneEdgeTest {
         check.finish();
     }
 
-    private static ScytheKeepers busy() {
-        ScytheKeepers x = Check.told("f1 9 3 4 1;f5 6 7 2 0;f9 3 9 6 0;");
-        x.brings(1);
-        x.day(1);
-        x.keep(0);
-        x.hangs(0, 2);
-        x.sees(4, 2, 0);
-        x.rate(4, 1);
-        return x;
-    }
-
     private static void dryOrWet() {
         check.of("A DAY (dry: 1, wet: 0;");
-        check.due("day(0)", busy().day(0), 0);
-        check.due("day(1)", busy().day(1), 1);
-        check.refused("day(2)", DoneEdgeTest::busy, x -> x.day(2), BAD);
-        for (int dry : FAR_OFF) {
-            check.refused("day(" + dry + ")", DoneEdgeTest::busy, x -> x.day(dry), BAD);
+        check.due("day(0)", Check.busy().day(0), 0);
+        check.due("day(1)", Check.busy().day(1), 1);
+        check.refused("day(2)", Check::busy, x -> x.day(2), BAD);
+        for (int dry : Check.FAR_OFF) {
+            check.refused("day(" + dry + ")", Check::busy, x -> x.day(dry), BAD);
         }
     }
 
@@ -268,7 +256,7 @@ public final class DoneEdgeTest {
 
     private static void broughtWhoHas() {
         check.of("BROUGHT: how many have ASKED. BAD; STATE: he has.");
-        check.refused("brings(1), who was BROUGHT", DoneEdgeTest::busy, x -> x.brings(1), STATE);
+        check.refused("brings(1), who was BROUGHT", Check::busy, x -> x.brings(1), STATE);
         check.refused("brings(0), who ASKED of himself", () -> {
             ScytheKeepers x = Check.told("f0 1 0 6 1;f0 1 20 6 0;");
             x.day(0);
@@ -278,9 +266,9 @@ public final class DoneEdgeTest {
 
     private static void broughtWhoThereIsNot() {
         check.of("BROUGHT: how many have ASKED. BAD;");
-        check.refused("brings(3) of three", DoneEdgeTest::busy, x -> x.brings(3), BAD);
-        for (int f : FAR_OFF) {
-            check.refused("brings(" + f + ")", DoneEdgeTest::busy, x -> x.brings(f), BAD);
+        check.refused("brings(3) of three", Check::busy, x -> x.brings(3), BAD);
+        for (int f : Check.FAR_OFF) {
+            check.refused("brings(" + f + ")", Check::busy, x -> x.brings(f), BAD);
         }
         check.refused("brings(0) of none", ScytheKeepers::new, x -> x.brings(0), BAD);
     }
@@ -297,33 +285,33 @@ public final class DoneEdgeTest {
 
     private static void hungWithHimself() {
         check.of("BAD (with himself, too)");
-        check.refused("hangs(0, 0)", DoneEdgeTest::busy, x -> x.hangs(0, 0), BAD);
-        check.refused("hangs(2, 2)", DoneEdgeTest::busy, x -> x.hangs(2, 2), BAD);
-        check.refused("hangs(1, 1), who has ASKED", DoneEdgeTest::busy, x -> x.hangs(1, 1), BAD);
+        check.refused("hangs(0, 0)", Check::busy, x -> x.hangs(0, 0), BAD);
+        check.refused("hangs(2, 2)", Check::busy, x -> x.hangs(2, 2), BAD);
+        check.refused("hangs(1, 1), who has ASKED", Check::busy, x -> x.hangs(1, 1), BAD);
     }
 
     private static void hungWhereItHangs() {
         check.of("STATE: he has ASKED, it hangs there.");
-        check.refused("hangs(2, 0), as told", DoneEdgeTest::busy, x -> x.hangs(2, 0), STATE);
-        check.refused("hangs(0, 2), HUNG there", DoneEdgeTest::busy, x -> x.hangs(0, 2), STATE);
-        check.due("hangs(0, 1), where it hung once", busy().hangs(0, 1), 2);
+        check.refused("hangs(2, 0), as told", Check::busy, x -> x.hangs(2, 0), STATE);
+        check.refused("hangs(0, 2), HUNG there", Check::busy, x -> x.hangs(0, 2), STATE);
+        check.due("hangs(0, 1), where it hung once", Check.busy().hangs(0, 1), 2);
     }
 
     private static void hungByWhoHasAsked() {
         check.of("HUNG: the scythe of one who has not ASKED, at another KEEPER's (not himself).");
-        check.refused("hangs(1, 2), who has ASKED", DoneEdgeTest::busy, x -> x.hangs(1, 2), STATE);
-        check.refused("hangs(1, 0), where it hangs", DoneEdgeTest::busy, x -> x.hangs(1, 0), STATE);
-        check.due("hangs(2, 1), with one who has", busy().hangs(2, 1), 0);
+        check.refused("hangs(1, 2), who has ASKED", Check::busy, x -> x.hangs(1, 2), STATE);
+        check.refused("hangs(1, 0), where it hangs", Check::busy, x -> x.hangs(1, 0), STATE);
+        check.due("hangs(2, 1), with one who has", Check.busy().hangs(2, 1), 0);
     }
 
     private static void hungWhereThereIsNobody() {
         check.of("HUNG: the KEEPER till then. BAD");
-        check.refused("hangs(0, 3) of three", DoneEdgeTest::busy, x -> x.hangs(0, 3), BAD);
-        check.refused("hangs(3, 0) of three", DoneEdgeTest::busy, x -> x.hangs(3, 0), BAD);
-        for (int f : FAR_OFF) {
-            check.refused("hangs(0, " + f + ")", DoneEdgeTest::busy, x -> x.hangs(0, f), BAD);
-            check.refused("hangs(" + f + ", 0)", DoneEdgeTest::busy, x -> x.hangs(f, 0), BAD);
-            check.refused("hangs(" + f + ", " + f + ")", DoneEdgeTest::busy, x -> x.hangs(f, f), BAD);
+        check.refused("hangs(0, 3) of three", Check::busy, x -> x.hangs(0, 3), BAD);
+        check.refused("hangs(3, 0) of three", Check::busy, x -> x.hangs(3, 0), BAD);
+        for (int f : Check.FAR_OFF) {
+            check.refused("hangs(0, " + f + ")", Check::busy, x -> x.hangs(0, f), BAD);
+            check.refused("hangs(" + f + ", 0)", Check::busy, x -> x.hangs(f, 0), BAD);
+            check.refused("hangs(" + f + ", " + f + ")", Check::busy, x -> x.hangs(f, f), BAD);
         }
         check.refused("hangs(0, 1) of none", ScytheKeepers::new, x -> x.hangs(0, 1), BAD);
     }
@@ -331,8 +319,8 @@ public final class DoneEdgeTest {
     private static void badAheadOfState() {
         check.of("Refused, and nothing changes, the first of these: BAD (a number is not as told, or there is no such "
                 + "thing), STATE (as told), FULL.");
-        check.refused("hangs(1, 3), who has ASKED", DoneEdgeTest::busy, x -> x.hangs(1, 3), BAD);
-        check.refused("hangs(1, -1), who has ASKED", DoneEdgeTest::busy, x -> x.hangs(1, -1), BAD);
+        check.refused("hangs(1, 3), who has ASKED", Check::busy, x -> x.hangs(1, 3), BAD);
+        check.refused("hangs(1, -1), who has ASKED", Check::busy, x -> x.hangs(1, -1), BAD);
     }
 
     private static void undoneTenAreKnown() {
@@ -372,7 +360,7 @@ public final class DoneEdgeTest {
 
     private static void undoneNotRefused() {
         check.of("UNDONE: the latest day(), brings(), hangs() that was not refused");
-        ScytheKeepers x = busy();
+        ScytheKeepers x = Check.busy();
         x.day(2);
         x.brings(1);
         x.brings(9);
@@ -392,7 +380,7 @@ public final class DoneEdgeTest {
 
     private static void undoneOnlyTheseThree() {
         check.of("UNDONE: the latest day(), brings(), hangs() that was not refused");
-        ScytheKeepers x = busy();
+        ScytheKeepers x = Check.busy();
         x.sees(1, 1, 1);
         x.forget();
         x.type('f');

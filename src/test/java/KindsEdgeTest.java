@@ -4,7 +4,6 @@ public final class KindsEdgeTest {
     private static final int BAD = ScytheKeepers.BAD;
     private static final int NO = ScytheKeepers.NO;
     private static final int STATE = ScytheKeepers.STATE;
-    private static final int[] FAR_OFF = {Integer.MIN_VALUE, -1000, -2, -1, 1000, Integer.MAX_VALUE};
     private static final String SIX = "f0 9 20 6 1;f0 1 0 6 0;f0 5 19 6 0;f0 5 19 6 0;f0 5 19 6 0;f0 9 20 6 0;";
 
     public static void main(String[] args) {
@@ -30,17 +29,6 @@ public final class KindsEdgeTest {
         backNothingElse();
         backNothingUndone();
         check.finish();
-    }
-
-    private static ScytheKeepers busy() {
-        ScytheKeepers x = Check.told("f1 9 3 4 1;f5 6 7 2 0;f9 3 9 6 0;");
-        x.brings(1);
-        x.day(1);
-        x.keep(0);
-        x.hangs(0, 2);
-        x.sees(4, 2, 0);
-        x.rate(4, 1);
-        return x;
     }
 
     private static void rateDue(ScytheKeepers x, int kind, int f, int want, int traced) {
@@ -133,9 +121,9 @@ public final class KindsEdgeTest {
 
     private static void rateKindBeyond() {
         check.of("RATE. NO: BAD.");
-        check.refused("rate(6, 0)", KindsEdgeTest::busy, x -> x.rate(6, 0), NO);
-        for (int kind : FAR_OFF) {
-            check.refused("rate(" + kind + ", 0)", KindsEdgeTest::busy, x -> x.rate(kind, 0), NO);
+        check.refused("rate(6, 0)", Check::busy, x -> x.rate(6, 0), NO);
+        for (int kind : Check.FAR_OFF) {
+            check.refused("rate(" + kind + ", 0)", Check::busy, x -> x.rate(kind, 0), NO);
         }
     }
 
@@ -143,12 +131,12 @@ public final class KindsEdgeTest {
         check.of("RATE. NO: BAD.");
         for (int k = 0; k <= 5; k++) {
             int kind = k;
-            check.refused("rate(" + kind + ", 3) of three", KindsEdgeTest::busy, x -> x.rate(kind, 3), NO);
-            check.refused("rate(" + kind + ", -1)", KindsEdgeTest::busy, x -> x.rate(kind, -1), NO);
+            check.refused("rate(" + kind + ", 3) of three", Check::busy, x -> x.rate(kind, 3), NO);
+            check.refused("rate(" + kind + ", -1)", Check::busy, x -> x.rate(kind, -1), NO);
             check.refused("rate(" + kind + ", 0) of none", ScytheKeepers::new, x -> x.rate(kind, 0), NO);
         }
-        for (int f : FAR_OFF) {
-            check.refused("rate(0, " + f + ")", KindsEdgeTest::busy, x -> x.rate(0, f), NO);
+        for (int f : Check.FAR_OFF) {
+            check.refused("rate(0, " + f + ")", Check::busy, x -> x.rate(0, f), NO);
         }
     }
 
@@ -162,9 +150,9 @@ public final class KindsEdgeTest {
 
     private static void keepBeyond() {
         check.of("An IMAGE is kept: DAY. BAD.");
-        check.refused("keep(2)", KindsEdgeTest::busy, x -> x.keep(2), BAD);
-        for (int image : FAR_OFF) {
-            check.refused("keep(" + image + ")", KindsEdgeTest::busy, x -> x.keep(image), BAD);
+        check.refused("keep(2)", Check::busy, x -> x.keep(2), BAD);
+        for (int image : Check.FAR_OFF) {
+            check.refused("keep(" + image + ")", Check::busy, x -> x.keep(image), BAD);
         }
     }
 
@@ -176,7 +164,7 @@ public final class KindsEdgeTest {
         check.due("keep(1)", x.keep(1), 7);
         check.due("back(0)", x.back(0), 0);
         check.due("back(1)", x.back(1), 7);
-        ScytheKeepers z = busy();
+        ScytheKeepers z = Check.busy();
         z.keep(1);
         check.due("what may be UNDONE", z.now(4), 3);
         check.due("undo()", z.undo(), 2);
@@ -184,7 +172,7 @@ public final class KindsEdgeTest {
 
     private static void keepAnew() {
         check.of("IMAGES 0, 1 keep NOW (DAY, who has ASKED, FIELDS, KEEPERS)");
-        ScytheKeepers x = busy();
+        ScytheKeepers x = Check.busy();
         x.day(1);
         check.due("keep(0) over what was kept", x.keep(0), 2);
         x.day(1);
@@ -194,15 +182,15 @@ public final class KindsEdgeTest {
 
     private static void backBeyond() {
         check.of("All of that becomes as an IMAGE has it: DAY. BAD; STATE: none was kept.");
-        check.refused("back(2)", KindsEdgeTest::busy, x -> x.back(2), BAD);
-        for (int image : FAR_OFF) {
-            check.refused("back(" + image + ")", KindsEdgeTest::busy, x -> x.back(image), BAD);
+        check.refused("back(2)", Check::busy, x -> x.back(2), BAD);
+        for (int image : Check.FAR_OFF) {
+            check.refused("back(" + image + ")", Check::busy, x -> x.back(image), BAD);
         }
     }
 
     private static void backOfNone() {
         check.of("BAD; STATE: none was kept.");
-        check.refused("back(1), 0 being kept", KindsEdgeTest::busy, x -> x.back(1), STATE);
+        check.refused("back(1), 0 being kept", Check::busy, x -> x.back(1), STATE);
         check.refused("back(0) of a new object", ScytheKeepers::new, x -> x.back(0), STATE);
         check.refused("back(1) of a new object", ScytheKeepers::new, x -> x.back(1), STATE);
         ScytheKeepers x = new ScytheKeepers();
@@ -235,7 +223,7 @@ public final class KindsEdgeTest {
 
     private static void backKeepsTheImage() {
         check.of("All of that becomes as an IMAGE has it: DAY.");
-        ScytheKeepers x = busy();
+        ScytheKeepers x = Check.busy();
         for (int round = 0; round < 3; round++) {
             check.due("back(0)", x.back(0), 1);
             check.due("left of 1", x.farmer(1, 1), 5);
@@ -249,7 +237,7 @@ public final class KindsEdgeTest {
 
     private static void backNothingElse() {
         check.of("nothing else (nothing can be UNDONE behind back())");
-        ScytheKeepers x = busy();
+        ScytheKeepers x = Check.busy();
         x.sees(5, 2, 1);
         x.rate(0, 0);
         Check.write(x, "f0 1");
@@ -265,7 +253,7 @@ public final class KindsEdgeTest {
 
     private static void backNothingUndone() {
         check.of("(nothing can be UNDONE behind back())");
-        ScytheKeepers x = busy();
+        ScytheKeepers x = Check.busy();
         x.back(0);
         check.due("now(4)", x.now(4), 0);
         check.due("undo()", x.undo(), STATE);

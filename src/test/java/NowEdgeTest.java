@@ -2,7 +2,6 @@
 public final class NowEdgeTest {
     private static final Check check = new Check();
     private static final int BAD = ScytheKeepers.BAD;
-    private static final int[] FAR_OFF = {Integer.MIN_VALUE, -1000, -2, -1, 1000, Integer.MAX_VALUE};
 
     public static void main(String[] args) {
         atFirst();
@@ -26,17 +25,6 @@ public final class NowEdgeTest {
         countWhatBeyond();
         countsFromNoneToAll();
         check.finish();
-    }
-
-    private static ScytheKeepers busy() {
-        ScytheKeepers x = Check.told("f1 9 3 4 1;f5 6 7 2 0;f9 3 9 6 0;");
-        x.brings(1);
-        x.day(1);
-        x.keep(0);
-        x.hangs(0, 2);
-        x.sees(4, 2, 0);
-        x.rate(4, 1);
-        return x;
     }
 
     private static void atFirst() {
@@ -65,10 +53,10 @@ public final class NowEdgeTest {
         check.of("`int farmer(int f, int what)`: Of one:");
         for (int what = 0; what <= 9; what++) {
             int w = what;
-            check.due("farmer(2, " + w + ") of three", busy().farmer(2, w) == BAD ? 1 : 0, 0);
-            check.refused("farmer(3, " + w + ") of three", NowEdgeTest::busy, x -> x.farmer(3, w), BAD);
-            for (int f : FAR_OFF) {
-                check.due("farmer(" + f + ", " + w + ")", busy().farmer(f, w), BAD);
+            check.due("farmer(2, " + w + ") of three", Check.busy().farmer(2, w) == BAD ? 1 : 0, 0);
+            check.refused("farmer(3, " + w + ") of three", Check::busy, x -> x.farmer(3, w), BAD);
+            for (int f : Check.FAR_OFF) {
+                check.due("farmer(" + f + ", " + w + ")", Check.busy().farmer(f, w), BAD);
             }
         }
         ScytheKeepers x = Check.told("f0 1 0 0 1;f0 1 0 0 0;f0 1 0 0 0;");
@@ -78,9 +66,9 @@ public final class NowEdgeTest {
 
     private static void farmerWhatBeyond() {
         check.of("5 whether he has ASKED (1, 0), 6 whose scythes hang with him (bits), 7 RING, 8 ASKS (NONE), 9 DONE (NONE). BAD.");
-        check.refused("farmer(0, 10)", NowEdgeTest::busy, x -> x.farmer(0, 10), BAD);
-        for (int what : FAR_OFF) {
-            check.refused("farmer(0, " + what + ")", NowEdgeTest::busy, x -> x.farmer(0, what), BAD);
+        check.refused("farmer(0, 10)", Check::busy, x -> x.farmer(0, 10), BAD);
+        for (int what : Check.FAR_OFF) {
+            check.refused("farmer(0, " + what + ")", Check::busy, x -> x.farmer(0, what), BAD);
         }
         check.due("farmer(5, 10) of none", new ScytheKeepers().farmer(5, 10), BAD);
     }
@@ -191,16 +179,16 @@ public final class NowEdgeTest {
         check.of("(As things are NOW; nothing is changed; days to come are dry.)");
         for (int what = 0; what <= 9; what++) {
             int w = what;
-            check.changesNothing("farmer(0, " + w + ")", NowEdgeTest::busy, x -> x.farmer(0, w));
-            check.changesNothing("now(" + w + ")", NowEdgeTest::busy, x -> x.now(w));
-            check.changesNothing("count(" + w + ")", NowEdgeTest::busy, x -> x.count(w));
-            check.changesNothing("start(" + 2 * w + ")", NowEdgeTest::busy, x -> x.start(2 * w));
-            check.changesNothing("hang(" + (w - 1) + ")", NowEdgeTest::busy, x -> x.hang(w - 1));
-            check.changesNothing("odds(0, " + w + ", 8, 0)", NowEdgeTest::busy, x -> x.odds(0, w, 8, 0));
-            check.changesNothing("look(" + 2 * w + ")", NowEdgeTest::busy, x -> x.look(2 * w));
-            check.changesNothing("ones(" + w + ")", NowEdgeTest::busy, x -> x.ones(w));
+            check.changesNothing("farmer(0, " + w + ")", Check::busy, x -> x.farmer(0, w));
+            check.changesNothing("now(" + w + ")", Check::busy, x -> x.now(w));
+            check.changesNothing("count(" + w + ")", Check::busy, x -> x.count(w));
+            check.changesNothing("start(" + 2 * w + ")", Check::busy, x -> x.start(2 * w));
+            check.changesNothing("hang(" + (w - 1) + ")", Check::busy, x -> x.hang(w - 1));
+            check.changesNothing("odds(0, " + w + ", 8, 0)", Check::busy, x -> x.odds(0, w, 8, 0));
+            check.changesNothing("look(" + 2 * w + ")", Check::busy, x -> x.look(2 * w));
+            check.changesNothing("ones(" + w + ")", Check::busy, x -> x.ones(w));
         }
-        check.changesNothing("trace()", NowEdgeTest::busy, x -> (int) x.trace());
+        check.changesNothing("trace()", Check::busy, x -> (int) x.trace());
     }
 
     private static void daysToComeAreDry() {
@@ -234,9 +222,9 @@ public final class NowEdgeTest {
 
     private static void nowWhatBeyond() {
         check.of("3 ALL (NONE), 4 how many may be UNDONE. BAD.");
-        check.refused("now(5)", NowEdgeTest::busy, x -> x.now(5), BAD);
-        for (int what : FAR_OFF) {
-            check.refused("now(" + what + ")", NowEdgeTest::busy, x -> x.now(what), BAD);
+        check.refused("now(5)", Check::busy, x -> x.now(5), BAD);
+        for (int what : Check.FAR_OFF) {
+            check.refused("now(" + what + ")", Check::busy, x -> x.now(what), BAD);
         }
     }
 
@@ -251,9 +239,9 @@ public final class NowEdgeTest {
 
     private static void countWhatBeyond() {
         check.of("0 FARMERS, 1 SEEN, 2 letters of THE TEXT. BAD.");
-        check.refused("count(3)", NowEdgeTest::busy, x -> x.count(3), BAD);
-        for (int what : FAR_OFF) {
-            check.refused("count(" + what + ")", NowEdgeTest::busy, x -> x.count(what), BAD);
+        check.refused("count(3)", Check::busy, x -> x.count(3), BAD);
+        for (int what : Check.FAR_OFF) {
+            check.refused("count(" + what + ")", Check::busy, x -> x.count(what), BAD);
         }
     }
 

@@ -4,7 +4,6 @@ public final class ShameEdgeTest {
     private static final int BAD = ScytheKeepers.BAD;
     private static final int FULL = ScytheKeepers.FULL;
     private static final int NONE = ScytheKeepers.NONE;
-    private static final int[] FAR_OFF = {Integer.MIN_VALUE, -1000, -2, -1, 1000, Integer.MAX_VALUE};
 
     public static void main(String[] args) {
         seenSixAtMost();
@@ -73,7 +72,7 @@ public final class ShameEdgeTest {
         check.due("sees(0, 0, 1)", new ScytheKeepers().sees(0, 0, 1), 1);
         check.due("sees(20, 0, 1)", new ScytheKeepers().sees(20, 0, 1), 1);
         check.refused("sees(21, 0, 1)", ShameEdgeTest::one, x -> x.sees(21, 0, 1), BAD);
-        for (int d : FAR_OFF) {
+        for (int d : Check.FAR_OFF) {
             check.refused("sees(" + d + ", 0, 1)", ShameEdgeTest::one, x -> x.sees(d, 0, 1), BAD);
         }
     }
@@ -83,7 +82,7 @@ public final class ShameEdgeTest {
         check.due("sees(0, 0, 1)", new ScytheKeepers().sees(0, 0, 1), 1);
         check.due("sees(0, 6, 1)", new ScytheKeepers().sees(0, 6, 1), 1);
         check.refused("sees(0, 7, 1)", ShameEdgeTest::one, x -> x.sees(0, 7, 1), BAD);
-        for (int m : FAR_OFF) {
+        for (int m : Check.FAR_OFF) {
             check.refused("sees(0, " + m + ", 1)", ShameEdgeTest::one, x -> x.sees(0, m, 1), BAD);
         }
     }
@@ -93,7 +92,7 @@ public final class ShameEdgeTest {
         check.due("had: SHAME 0 or NERVE 0", seen(0, 0, 1).ones(0), 27);
         check.due("had not: all others", seen(0, 0, 0).ones(0), 120);
         check.refused("sees(0, 0, 2)", ShameEdgeTest::one, x -> x.sees(0, 0, 2), BAD);
-        for (int had : FAR_OFF) {
+        for (int had : Check.FAR_OFF) {
             check.refused("sees(0, 0, " + had + ")", ShameEdgeTest::one, x -> x.sees(0, 0, had), BAD);
         }
     }
@@ -186,7 +185,7 @@ public final class ShameEdgeTest {
     private static void onesWhatBeyond() {
         check.of("the greatest (2); NONE. BAD.");
         check.refused("ones(3)", ShameEdgeTest::one, x -> x.ones(3), BAD);
-        for (int what : FAR_OFF) {
+        for (int what : Check.FAR_OFF) {
             check.refused("ones(" + what + ")", ShameEdgeTest::one, x -> x.ones(what), BAD);
         }
         check.due("ones(3), no two being left", seen(20, 6, 0).ones(3), BAD);
@@ -195,7 +194,7 @@ public final class ShameEdgeTest {
     private static void lookDayBeyond() {
         check.of("LOOK; NONE. BAD.");
         check.refused("look(21)", ShameEdgeTest::one, x -> x.look(21), BAD);
-        for (int d : FAR_OFF) {
+        for (int d : Check.FAR_OFF) {
             check.refused("look(" + d + ")", ShameEdgeTest::one, x -> x.look(d), BAD);
         }
         check.due("look(21), no two being left", seen(20, 6, 0).look(21), BAD);

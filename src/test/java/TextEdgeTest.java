@@ -428,17 +428,11 @@ public final class TextEdgeTest {
         check.due("FAULT 140", read(filled("f", 140)), -150);
     }
 
-    /** A valley in which all that can be told has been. */
+    /** Both IMAGES are kept, too, and NOW is neither of them. */
     private static ScytheKeepers busy() {
-        ScytheKeepers x = Check.told("f1 9 3 4 1;f5 6 7 2 0;f9 3 9 6 0;");
-        x.brings(1);
-        x.day(1);
-        x.keep(0);
-        x.hangs(0, 2);
+        ScytheKeepers x = Check.busy();
         x.keep(1);
         x.day(1);
-        x.sees(4, 2, 0);
-        x.rate(4, 1);
         return x;
     }
 
