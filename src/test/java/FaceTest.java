@@ -113,6 +113,7 @@ public final class FaceTest {
             check.holds(library.group() + " is in the rules' library", LIBRARY.contains(library.group()));
         }
         methodsAreShort(text);
+        onlyConstructorsMake(code);
     }
 
     private static void methodsAreShort(String text) {
@@ -125,6 +126,22 @@ public final class FaceTest {
             if (lines[i].matches(" {4,8}\\}") && lines[from].contains("(")) {
                 check.holds("sixty lines at most: " + lines[from].trim(), i - from < 60);
             }
+        }
+    }
+
+    /** All calls of a run live in one room: rows are made once, in constructors and where fields stand. */
+    private static void onlyConstructorsMake(String code) {
+        String header = "";
+        String end = "";
+        for (String line : code.split("\n")) {
+            if (line.matches(" {4,8}(public|private) .*\\) *\\{")) {
+                header = line.trim();
+                end = line.substring(0, line.indexOf(header)) + "}";
+            } else if (line.equals(end)) {
+                header = "";
+            }
+            boolean constructs = header.isEmpty() || header.matches("(public|private) [A-Z]\\w*\\(.*");
+            check.holds("nothing is made in " + header, constructs || !line.matches(".*\\b(new|clone|copyOf|copyOfRange)\\b.*"));
         }
     }
 
